@@ -713,26 +713,32 @@ public final class FencedBoxes {
         }
 
         static int byTrying(int fences) {
-            return tryOut(fences, -BOXES, BOXES, 0);
+            int left = BOXES - Integer.bitCount(Grid.boxesHaving(fences, SIDES));
+            return tryOut(fences, left, -left, left, 0);
         }
 
         /**
-         * Exact between low and high, the differences that still matter: what lies outside them is
-         * not tried to its end, as otherwise 8 open fences would be tried in all their 8! orders.
+         * Exact between low and high, the differences that still matter. What lies outside them,
+         * or follows when all boxes that are left are got, is not tried to its end: otherwise 8
+         * fences would be tried in all their 40320 orders.
          */
-        private static int tryOut(int fences, int low, int high, int depth) {
+        private static int tryOut(int fences, int left, int low, int high, int depth) {
             if (fences == ALL_FENCES || depth >= MOST_OPEN_AT_END) {
                 return 0;
             }
-            int best = -BOXES;
-            for (int fence = 0; fence < FENCES && best < high; fence++) {
+            if (left <= low) {
+                return left;
+            }
+            int best = -left;
+            int enough = Math.min(left, high);
+            for (int fence = 0; fence < FENCES && best < enough; fence++) {
                 if (!Grid.has(fences, fence)) {
                     int next = fences | 1 << fence;
                     int closed = Integer.bitCount(Grid.closedWith(next, fence));
                     int from = Math.max(best, low);
                     int reached = closed > 0
-                        ? closed + tryOut(next, from - closed, high - closed, depth + 1)
-                        : -tryOut(next, -high, -from, depth + 1);
+                        ? closed + tryOut(next, left - closed, from - closed, enough - closed, depth + 1)
+                        : -tryOut(next, left, -enough, -from, depth + 1);
                     best = Math.max(best, reached);
                 }
             }

@@ -142,6 +142,11 @@ public final class PromiseTest {
         due("3 returns", 5, x::newGame);
         due("3 no fences", 0, x::drawn);
         due("3 the player 0 begins", 0, x::turn);
+        due("3 no boxes of 0", 0, () -> {
+            FencedBoxes two = with(0, 1, 4, 5, 16, 18, 17);
+            two.newGame();
+            return two.boxesOf(0);
+        });
         due("3 no boxes of 1", 0, () -> x.boxesOf(1));
         refused(x, "3 no owner", NO_ELEMENT, () -> x.ownerOf(0));
         due("3 counts for none", 0, () -> x.won(0) + x.won(1) + x.evenGames());
@@ -243,8 +248,11 @@ public final class PromiseTest {
         due("14 two at once", 2, () -> with(0, 1, 4, 5, 16, 18).canTakeByRounds());
         due("14 those that are closed don't count", 3,
             () -> with(0, 1, 2, 3, 4, 5, 6, 7, 16, 17).canTakeByRounds());
+        due("14 by the fence 0", 1, () -> with(4, 16, 17).canTakeByRounds());
+        due("14 the last row and column", 1, () -> with(15, 29, 30).canTakeByRounds());
         due("14 over", 0, () -> whole(31).canTakeByRounds());
         due("15 lowest of two", 4, () -> with(0, 16, 17, 15, 29, 30).takingFence());
+        due("15 the lowest of all", 0, () -> with(4, 16, 17).takingFence());
         due("15 a right one", 17, () -> with(0, 4, 16).takingFence());
         FencedBoxes none = with(0, 16);
         refused(none, "15 none", NO_ELEMENT, none::takingFence);
@@ -289,8 +297,14 @@ public final class PromiseTest {
         due("20 behind the row", 8, x::leastSacrifice);
         due("20 the shorter one", 12, () -> with(0, 1, 2, 3, 4, 5, 6, 7, 8, 9, 10, 11, 26, 28, 30).leastSacrifice());
         due("20 one that takes gives less", 17, () -> with(0, 1, 4, 5, 16, 18).leastSacrifice());
+        due("20 though all give twelve", 0, () -> givesTwelve().leastSacrifice());
         due("20 the last one", 30, () -> whole(30).leastSacrifice());
         refused(over, "20 all drawn", NO_ELEMENT, over::leastSacrifice);
+    }
+
+    /** One chain through all boxes, from the fence 0 to the fence 30. */
+    private static FencedBoxes givesTwelve() {
+        return allBut(0, 17, 18, 19, 7, 24, 23, 22, 8, 27, 28, 29, 30);
     }
 
     private static void chains() {
@@ -400,6 +414,19 @@ public final class PromiseTest {
         due("30 six each", 6, () -> even.boxesOf(0));
         due("30 one", 1, even::evenGames);
         due("30 won by none", 0, () -> even.won(0) + even.won(1));
+        FencedBoxes first = with(0, 1, 4, 5, 16, 18, 17);
+        for (int fence = 0; fence < 31; fence++) {
+            if (!first.isDrawn(fence)) {
+                first.draw(fence);
+            }
+        }
+        due("29 the player 0 has more", 1, () -> first.boxesOf(0) > 6 ? 1 : 0);
+        due("29 the player 0", 1, () -> first.won(0));
+        due("29 not the player 1", 0, () -> first.won(1));
+        first.undo();
+        due("36 won by the player 0 no longer", 0, () -> first.won(0));
+        even.undo();
+        due("36 even no longer", 0, even::evenGames);
         FencedBoxes deals = with(0, 1, 4, 5, 16, 18, 17);
         due("31 one", 1, deals::doubleDeals);
         deals.newGame();
@@ -473,6 +500,12 @@ public final class PromiseTest {
         over.undo();
         compare("36 a game that was over", before.replaceAll(" [0-4] ", " "), face(over).replaceAll(" [0-4] ", " "));
         due("36 it is won no longer", 0, () -> over.won(0) + over.won(1) + over.evenGames());
+        FencedBoxes closing = with(0, 1, 4, 5, 16, 18, 17);
+        closing.undo();
+        due("36 the boxes of the player 0", 0, () -> closing.boxesOf(0));
+        due("36 the double deal", 0, closing::doubleDeals);
+        closing.undo();
+        due("36 the turn", 1, closing::turn);
         FencedBoxes asked = with(3);
         asked.keep();
         asked.type('n');
