@@ -10,6 +10,8 @@ abstract class Sentences {
     /** 17 orders and 58 characters, no fence twice. */
     static final String LONG = "f0;f1;f2;f3;f4;f5;f6;f7;f8;f9;f10;f11;f12;f13;f14;f15;f16;";
 
+    private static final int MOST_TOLD = 10;
+
     interface Call {
         Object answer();
     }
@@ -30,11 +32,13 @@ abstract class Sentences {
     private static int check;
     private static int sentences;
     private static int wrong;
+    private static int wrongNow;
 
     /** The promise is told by its number and name, or the part of the terms by its heading. */
     static void sentence(String promise, String words, Checks checks) {
         now = promise + ": \"" + words + "\"";
         check = 0;
+        wrongNow = 0;
         sentences++;
         try {
             checks.run();
@@ -71,9 +75,13 @@ abstract class Sentences {
         }
     }
 
+    /** Of a sentence that is broken in many states the first answers are enough. */
     private static void tell(String what) {
         wrong++;
-        System.out.println(now + " " + what);
+        wrongNow++;
+        if (wrongNow <= MOST_TOLD) {
+            System.out.println(now + " " + what);
+        }
     }
 
     static Object answerOf(Call call) {

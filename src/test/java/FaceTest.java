@@ -1,89 +1,185 @@
+import java.io.IOException;
+import java.io.UncheckedIOException;
 import java.lang.reflect.Constructor;
 import java.lang.reflect.Field;
 import java.lang.reflect.Method;
 import java.lang.reflect.Modifier;
+import java.nio.file.Files;
+import java.nio.file.Path;
+import java.util.ArrayList;
 import java.util.Arrays;
-import java.util.Set;
-import java.util.TreeSet;
+import java.util.List;
 import java.util.stream.Collectors;
 
-/** The class shows the document's face, whole, and nothing else. */
-public final class FaceTest {
-    private static final String ARGUMENT = " throws IllegalArgumentException";
-    private static final String STATE = " throws IllegalStateException";
-    private static final String ELEMENT = " throws NoSuchElementException";
-    private static final String ARGUMENT_STATE = " throws IllegalArgumentException, IllegalStateException";
-    private static final String ARGUMENT_ELEMENT = " throws IllegalArgumentException, NoSuchElementException";
+/**
+ * The lines of 'The public face', each by itself, and what else the document says of the interface.
+ * What the source says is read where it lies, so the test is run from the project's directory.
+ */
+public final class FaceTest extends Sentences {
+    private static final String FACE = "The public face";
+    private static final Path SOURCE = Path.of("src", "main", "java", "FencedBoxes.java");
+    private static final Class<?> SHOWN = FencedBoxes.class;
 
-    private static final String[] FACE = {
-        "int draw(int)" + ARGUMENT_STATE, "int newGame()", "boolean isDrawn(int)" + ARGUMENT, "int drawn()",
-        "int fencesOf(int)" + ARGUMENT, "int ownerOf(int)" + ARGUMENT_ELEMENT, "int boxesOf(int)" + ARGUMENT,
-        "int boxesWith(int)" + ARGUMENT, "int turn()", "int whyNot(int)" + ARGUMENT, "boolean isOver()",
-        "int canTake()", "int canTakeByRounds()", "int takingFence()" + ELEMENT, "boolean isSafe(int)" + ARGUMENT,
-        "int safeFences()", "int safeInRow()", "int gives(int)" + ARGUMENT_STATE, "int leastSacrifice()" + ELEMENT,
-        "int chains()", "int chainOf(int)" + ARGUMENT_ELEMENT, "int rings()", "int longChains()",
-        "int ruleHoldsFor()", "int endDifference()" + ELEMENT, "int endByTrying()" + ELEMENT,
-        "int bestFence()" + ELEMENT, "int won(int)" + ARGUMENT, "int evenGames()", "int doubleDeals()",
-        "float share()", "int keep()", "int goBack()" + STATE, "int states()", "int undo()" + STATE,
-        "int type(int)" + ARGUMENT_STATE, "int clearText()", "int faultPosition()" + ELEMENT,
-        "int faultReason()" + ELEMENT, "int faultCause()" + ELEMENT, "int play()" + STATE};
+    private static final String[] CALLS = {
+        "public int draw(int fence) throws IllegalArgumentException, IllegalStateException;",
+        "public int newGame();",
+        "public boolean isDrawn(int fence) throws IllegalArgumentException;",
+        "public int drawn();",
+        "public int fencesOf(int box) throws IllegalArgumentException;",
+        "public int ownerOf(int box) throws IllegalArgumentException, NoSuchElementException;",
+        "public int boxesOf(int player) throws IllegalArgumentException;",
+        "public int boxesWith(int fences) throws IllegalArgumentException;",
+        "public int turn();",
+        "public int whyNot(int fence) throws IllegalArgumentException;",
+        "public boolean isOver();",
+        "public int canTake();",
+        "public int canTakeByRounds();",
+        "public int takingFence() throws NoSuchElementException;",
+        "public boolean isSafe(int fence) throws IllegalArgumentException;",
+        "public int safeFences();",
+        "public int safeInRow();",
+        "public int gives(int fence) throws IllegalArgumentException, IllegalStateException;",
+        "public int leastSacrifice() throws NoSuchElementException;",
+        "public int chains();",
+        "public int chainOf(int box) throws IllegalArgumentException, NoSuchElementException;",
+        "public int rings();",
+        "public int longChains();",
+        "public int ruleHoldsFor();",
+        "public int endDifference() throws NoSuchElementException;",
+        "public int endByTrying() throws NoSuchElementException;",
+        "public int bestFence() throws NoSuchElementException;",
+        "public int won(int player) throws IllegalArgumentException;",
+        "public int evenGames();",
+        "public int doubleDeals();",
+        "public float share();",
+        "public int keep();",
+        "public int goBack() throws IllegalStateException;",
+        "public int states();",
+        "public int undo() throws IllegalStateException;",
+        "public int type(int character) throws IllegalArgumentException, IllegalStateException;",
+        "public int clearText();",
+        "public int faultPosition() throws NoSuchElementException;",
+        "public int faultReason() throws NoSuchElementException;",
+        "public int faultCause() throws NoSuchElementException;",
+        "public int play() throws IllegalStateException;"};
 
-    private static int wrong = 0;
+    /** The parts of the interface, each with its calls, as the document names them. */
+    private static final String[][] PARTS = {
+        {"changes", "draw", "newGame"},
+        {"fences, boxes", "isDrawn", "drawn", "fencesOf", "ownerOf", "boxesOf", "boxesWith", "turn", "whyNot",
+            "isOver"},
+        {"taking, giving", "canTake", "canTakeByRounds", "takingFence", "isSafe", "safeFences", "safeInRow", "gives",
+            "leastSacrifice"},
+        {"chains", "chains", "chainOf", "rings", "longChains", "ruleHoldsFor"},
+        {"ends", "endDifference", "endByTrying", "bestFence"},
+        {"accounts, the snapshot", "won", "evenGames", "doubleDeals", "share", "keep", "goBack"},
+        {"history, texts", "states", "undo", "type", "clearText", "faultPosition", "faultReason", "faultCause",
+            "play"}};
 
-    private static void due(String what, Object want, Object got) {
-        if (!want.equals(got)) {
-            wrong++;
-            System.out.println(what + ": " + got + ", due is " + want);
+    private static List<String> sourceLines() {
+        try {
+            return Files.readAllLines(SOURCE);
+        } catch (IOException e) {
+            throw new UncheckedIOException(e);
         }
+    }
+
+    private static List<Method> shownMethods() {
+        List<Method> methods = new ArrayList<>();
+        for (Method m : SHOWN.getDeclaredMethods()) {
+            if (!Modifier.isPrivate(m.getModifiers())) {
+                methods.add(m);
+            }
+        }
+        return methods;
     }
 
     private static String names(Class<?>[] classes) {
         return Arrays.stream(classes).map(Class::getSimpleName).collect(Collectors.joining(", "));
     }
 
+    /** As a line of the face, but without the names of the arguments, which a compiled class keeps not. */
     private static String told(Method m) {
         String exceptions = names(m.getExceptionTypes());
-        return m.getReturnType().getSimpleName() + " " + m.getName() + "(" + names(m.getParameterTypes()) + ")"
-            + (exceptions.isEmpty() ? "" : " throws " + exceptions);
+        return Modifier.toString(m.getModifiers()) + " " + m.getReturnType().getSimpleName() + " " + m.getName()
+            + "(" + names(m.getParameterTypes()) + ")" + (exceptions.isEmpty() ? "" : " throws " + exceptions) + ";";
+    }
+
+    private static String nameIn(String line) {
+        String head = line.substring(0, line.indexOf('('));
+        return head.substring(head.lastIndexOf(' ') + 1);
+    }
+
+    private static void lines() {
+        sentence(FACE, "public final class FencedBoxes {", () -> {
+            same(Modifier.PUBLIC | Modifier.FINAL, SHOWN.getModifiers());
+            same("FencedBoxes", SHOWN.getName());
+            same(Object.class, SHOWN.getSuperclass());
+            same(0, SHOWN.getInterfaces().length);
+        });
+        sentence(FACE, "public FencedBoxes();", () -> {
+            Constructor<?>[] constructors = SHOWN.getDeclaredConstructors();
+            same(1, constructors.length);
+            same("", names(constructors[0].getParameterTypes()));
+            same("", names(constructors[0].getExceptionTypes()));
+            same(Modifier.PUBLIC, constructors[0].getModifiers());
+        });
+        for (String line : CALLS) {
+            sentence(FACE, line, () -> {
+                List<String> found = new ArrayList<>();
+                for (Method m : shownMethods()) {
+                    if (m.getName().equals(nameIn(line))) {
+                        found.add(told(m));
+                    }
+                }
+                same(List.of(line.replaceAll("int [a-z]+\\)", "int)")), found);
+                same(true, sourceLines().contains("    " + line.replace(";", " {")));
+            });
+        }
+        sentence(FACE, "}", () -> {
+            same(CALLS.length, shownMethods().size());
+            for (Field f : SHOWN.getDeclaredFields()) {
+                same(f.getName(), Modifier.isPrivate(f.getModifiers()) ? f.getName() : "not private");
+            }
+        });
+        sentence("Terms", "All numbers are whole numbers, but for the share.", () -> {
+            for (Method m : shownMethods()) {
+                Class<?> answer = m.getReturnType();
+                same(true, m.getName().equals("share") ? answer == float.class
+                    : answer == int.class || answer == boolean.class);
+                for (Class<?> argument : m.getParameterTypes()) {
+                    same(int.class, argument);
+                }
+            }
+        });
+    }
+
+    private static void parts() {
+        for (String[] part : PARTS) {
+            List<String> names = Arrays.asList(part).subList(1, part.length);
+            String calls = names.stream().map(name -> "`" + name + "`").collect(Collectors.joining(", "));
+            sentence("Changes and exceptions", "Ahead of the calls " + calls + " the interface says: ---- " + part[0]
+                + ".", () -> same(names, callsBehind("// ---- " + part[0])));
+        }
+    }
+
+    /** The calls of the face in the source from a heading on to the next one. */
+    private static List<String> callsBehind(String heading) {
+        List<String> calls = new ArrayList<>();
+        boolean behind = false;
+        for (String line : sourceLines()) {
+            if (line.trim().startsWith("// ----")) {
+                behind = line.trim().equals(heading);
+            } else if (behind && line.startsWith("    public ")) {
+                calls.add(nameIn(line));
+            }
+        }
+        return calls;
     }
 
     public static void main(String[] args) {
-        Class<?> c = FencedBoxes.class;
-        due("public and final", Modifier.PUBLIC | Modifier.FINAL, c.getModifiers());
-        Set<String> shown = new TreeSet<>();
-        Set<String> names = new TreeSet<>();
-        for (Method m : c.getDeclaredMethods()) {
-            if (!Modifier.isPrivate(m.getModifiers())) {
-                due("modifiers of " + m.getName(), Modifier.PUBLIC, m.getModifiers());
-                shown.add(told(m));
-                names.add(m.getName());
-            }
-        }
-        due("the calls", new TreeSet<>(Arrays.asList(FACE)), shown);
-        Constructor<?>[] constructors = c.getDeclaredConstructors();
-        due("constructors", 1, constructors.length);
-        due("of the constructor", "", names(constructors[0].getParameterTypes()));
-        due("is public", Modifier.PUBLIC, constructors[0].getModifiers());
-        for (Field f : c.getDeclaredFields()) {
-            due("private " + f.getName(), true, Modifier.isPrivate(f.getModifiers()));
-            due("no static state " + f.getName(), true,
-                !Modifier.isStatic(f.getModifiers()) || Modifier.isFinal(f.getModifiers()));
-        }
-        for (Class<?> inside : c.getDeclaredClasses()) {
-            due("private static " + inside.getSimpleName(), true,
-                Modifier.isPrivate(inside.getModifiers()) && Modifier.isStatic(inside.getModifiers()));
-            for (Method m : inside.getDeclaredMethods()) {
-                due("no name of the face " + m.getName(), false, names.contains(m.getName()));
-            }
-        }
-        for (Method m : c.getDeclaredMethods()) {
-            if (Modifier.isPrivate(m.getModifiers())) {
-                due("no private one of the face " + m.getName(), false, names.contains(m.getName()));
-            }
-        }
-        System.out.println(wrong == 0 ? "the face is the document's" : wrong + " faults of the face");
-        if (wrong != 0) {
-            System.exit(1);
-        }
+        lines();
+        parts();
+        end();
     }
 }
