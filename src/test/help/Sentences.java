@@ -62,7 +62,7 @@ abstract class Sentences {
     }
 
     /** The call is refused as told, and all that the object holds is as in one without the call. */
-    static void changesNothing(Maker maker, String want, Use use) {
+    static void changesNothing(Maker maker, Object want, Use use) {
         FencedBoxes x = maker.make();
         due(want, () -> use.of(x));
         same(everything(maker.make()), everything(x));

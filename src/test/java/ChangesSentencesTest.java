@@ -5,6 +5,16 @@ public final class ChangesSentencesTest extends Sentences {
     /** The four kinds of change; each leaves another number of fences than there is ahead of it. */
     private static final Use[] CHANGES = {x -> x.draw(3), FencedBoxes::newGame, FencedBoxes::goBack, FencedBoxes::play};
 
+    /** The calls that only ask; which of them throw is another matter for each object. */
+    private static final Use[] ASKING = {x -> x.isDrawn(3), FencedBoxes::drawn, x -> x.fencesOf(3), x -> x.ownerOf(0),
+        x -> x.ownerOf(11), x -> x.boxesOf(1), x -> x.boxesWith(2), FencedBoxes::turn, x -> x.whyNot(3),
+        FencedBoxes::isOver, FencedBoxes::canTake, FencedBoxes::canTakeByRounds, FencedBoxes::takingFence,
+        x -> x.isSafe(30), FencedBoxes::safeFences, FencedBoxes::safeInRow, x -> x.gives(30), x -> x.gives(17),
+        FencedBoxes::leastSacrifice, FencedBoxes::chains, x -> x.chainOf(0), x -> x.chainOf(11), FencedBoxes::rings,
+        FencedBoxes::longChains, FencedBoxes::ruleHoldsFor, FencedBoxes::endDifference, FencedBoxes::endByTrying,
+        FencedBoxes::bestFence, x -> x.won(0), FencedBoxes::evenGames, FencedBoxes::doubleDeals, FencedBoxes::share,
+        FencedBoxes::states, FencedBoxes::faultPosition, FencedBoxes::faultReason, FencedBoxes::faultCause};
+
     /** Games behind it, boxes of both players, a snapshot, a history, and a text that can be played. */
     private static FencedBoxes rich() {
         FencedBoxes x = over(2);
@@ -27,6 +37,13 @@ public final class ChangesSentencesTest extends Sentences {
         FencedBoxes x = over(9);
         x.keep();
         return typed(x, "n;f7;");
+    }
+
+    /** Boxes with two fences and with three, and ends that can be worked out. */
+    private static FencedBoxes nearEnd() {
+        FencedBoxes x = allBut(0, 17, 18, 2, 15);
+        x.keep();
+        return typed(x, "f15;f17;");
     }
 
     private static FencedBoxes fullText() {
@@ -74,19 +91,46 @@ public final class ChangesSentencesTest extends Sentences {
 
     /** All calls that are no changes, such as throw something among them. */
     private static void noChanges(FencedBoxes x) {
-        Use[] calls = {y -> y.isDrawn(3), FencedBoxes::drawn, y -> y.fencesOf(3), y -> y.ownerOf(0),
-            y -> y.ownerOf(11), y -> y.boxesOf(1), y -> y.boxesWith(2), FencedBoxes::turn, y -> y.whyNot(3),
-            FencedBoxes::isOver, FencedBoxes::canTake, FencedBoxes::canTakeByRounds, FencedBoxes::takingFence,
-            y -> y.isSafe(30), FencedBoxes::safeFences, FencedBoxes::safeInRow, y -> y.gives(30),
-            FencedBoxes::leastSacrifice, FencedBoxes::chains, y -> y.chainOf(11), FencedBoxes::rings,
-            FencedBoxes::longChains, FencedBoxes::ruleHoldsFor, FencedBoxes::endDifference,
-            FencedBoxes::endByTrying, FencedBoxes::bestFence, y -> y.won(0), FencedBoxes::evenGames,
-            FencedBoxes::doubleDeals, FencedBoxes::share, FencedBoxes::keep, FencedBoxes::states,
-            FencedBoxes::clearText, y -> y.type('n'), FencedBoxes::faultPosition, FencedBoxes::faultReason,
-            FencedBoxes::faultCause};
-        for (Use call : calls) {
+        for (Use call : ASKING) {
             answerOf(() -> call.of(x));
         }
+        x.keep();
+        x.clearText();
+        x.type('n');
+    }
+
+    private static void asking() {
+        sentence("Not promised", "Nothing is promised beyond the answers and state changes described above", () -> {
+            for (Use call : ASKING) {
+                asksAlone(ChangesSentencesTest::rich, call);
+                asksAlone(ChangesSentencesTest::richWithFault, call);
+                asksAlone(ChangesSentencesTest::richAndOver, call);
+                asksAlone(ChangesSentencesTest::nearEnd, call);
+                asksAlone(call);
+            }
+        });
+    }
+
+    /** What the call answers is no matter here. */
+    private static void asksAlone(Maker maker, Use call) {
+        FencedBoxes x = maker.make();
+        changesNothing(maker, answerOf(() -> call.of(x)), call);
+    }
+
+    /** Told by one call for each object, as others that ask could hide what the call has done. */
+    private static void asksAlone(Use call) {
+        due(4, () -> behind(rich(), call).goBack());
+        due(11, () -> behind(rich(), call).newGame());
+        due(4, () -> behind(rich(), call).clearText());
+        due(1, () -> behind(with(0, 16), call).undo());
+        due(NO_STATE, () -> behind(new FencedBoxes(), call).undo());
+        due(NO_STATE, () -> behind(new FencedBoxes(), call).goBack());
+        due(1, () -> behind(new FencedBoxes(), call).type('n'));
+    }
+
+    private static FencedBoxes behind(FencedBoxes x, Use call) {
+        answerOf(() -> call.of(x));
+        return x;
     }
 
     private static void histories() {
@@ -272,6 +316,7 @@ public final class ChangesSentencesTest extends Sentences {
 
     public static void main(String[] args) {
         kinds();
+        asking();
         histories();
         undoing();
         exceptions();
